@@ -1,0 +1,45 @@
+/** What every test of the project counts its answers with. */
+final class Check {
+    private int wrong = 0;
+    private int asked = 0;
+
+    void due(String call, long got, long want) {
+        asked++;
+        if (got != want) {
+            wrong++;
+            System.out.println(call + " answered " + got + ", due is " + want);
+        }
+    }
+
+    void due(String call, boolean got, boolean want) {
+        due(call, got ? 1 : 0, want ? 1 : 0);
+    }
+
+    /** The DOTS of SHEET k against a drawing: one text a row, '#' for a DOT that is not 0, '.' for one that is. */
+    void drawing(String call, DotBench bench, int k, String... rows) {
+        for (int y = 0; y < rows.length; y++) {
+            StringBuilder got = new StringBuilder();
+            for (int x = 0; x < rows[y].length(); x++) {
+                got.append(bench.dot(k, x, y) != 0 ? '#' : '.');
+            }
+            asked++;
+            if (!got.toString().equals(rows[y])) {
+                wrong++;
+                System.out.println(call + " drew row " + y + " as " + got + ", due is " + rows[y]);
+            }
+        }
+    }
+
+    void end() {
+        System.out.println(wrong == 0 ? asked + " answers, all as due" : wrong + " of " + asked + " answers are not as due");
+        if (wrong != 0) {
+            System.exit(1);
+        }
+    }
+
+    static DotBench benchWith(int w, int h) {
+        DotBench bench = new DotBench();
+        bench.sheet(0, w, h);
+        return bench;
+    }
+}
