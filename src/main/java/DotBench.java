@@ -319,7 +319,7 @@ public final class DotBench {
         return ink;
     }
 
-    /** How far a LINE has gone at step i along a side of the given distance: of two as near, the nearer to its start. */
+    /** How far along a side of the given distance a LINE is at step i: of two as near, the nearer to its start. */
     private static int wayAlong(int i, int steps, int distance) {
         return steps <= 0 ? 0 : (2 * i * distance + steps - 1) / (2 * steps);
     }
@@ -365,7 +365,7 @@ public final class DotBench {
         if (source == null || target == null || !from.isNearby() || !onto.isNearby()) {
             return NONE;
         }
-        if (source == target) {
+        if (k == q) {
             source = likenessOf(source);
         }
         int touched = 0;

@@ -31,7 +31,7 @@ final class Check {
     }
 
     void end() {
-        System.out.println(wrong == 0 ? asked + " answers, all as due" : wrong + " of " + asked + " answers are not as due");
+        System.out.println(asked + " answers, " + (wrong == 0 ? "all as due" : wrong + " of them not as due"));
         if (wrong != 0) {
             System.exit(1);
         }

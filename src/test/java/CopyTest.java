@@ -147,7 +147,8 @@ public final class CopyTest {
         x.sheet(1, 3, 3);
         int[] right = {0, 0, 0, 1, 1, 1, 0, 0, 1, 1};
         int[][] wrong = {{0, 2}, {0, -1}, {0, 4}, {5, 2}, {1, 201}, {2, -201}, {6, 201}, {7, -201}, {3, 0}, {4, 0},
-            {8, 0}, {9, 0}, {3, 65}, {4, 65}, {8, 65}, {9, 65}, {8, -1}, {9, Integer.MIN_VALUE}, {3, Integer.MAX_VALUE}};
+            {8, 0}, {9, 0}, {3, 65}, {4, 65}, {8, 65}, {9, 65}, {8, -1},
+            {9, Integer.MIN_VALUE}, {3, Integer.MAX_VALUE}};
         for (int[] one : wrong) {
             int[] o = right.clone();
             o[one[0]] = one[1];

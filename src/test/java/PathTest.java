@@ -11,6 +11,7 @@ public final class PathTest {
         smoothing();
         smoothingByOpacity();
         inside();
+        sidesOfTheSheet();
         wrongFills();
         CHECK.end();
     }
@@ -145,6 +146,19 @@ public final class PathTest {
         x.point(-4096, 4096, false);
         CHECK.due("the greatest EDGES, left of it", x.inside(8000, 8001, 0), 1);
         CHECK.due("the greatest EDGES, on it", x.inside(-8000, -8000, 0), 0);
+    }
+
+    private static void sidesOfTheSheet() {
+        DotBench x = Check.benchWith(64, 64);
+        rectangle(x, 0, 0, 1024, 1024, false);
+        CHECK.due("the greatest SHEET, smoothed", x.fill(0, 0, true), 4096);
+        CHECK.due("all of it", x.count(0, -1), 4096);
+        CHECK.due("the greatest SHEET", x.fill(0, 0, false), 4096);
+        x.clear();
+        rectangle(x, 1024, 0, 1040, 1024, false);
+        rectangle(x, -16, 0, 0, 1024, true);
+        CHECK.due("beside it, smoothed", x.fill(0, 1, true), 0);
+        CHECK.due("beside it", x.fill(0, 1, false), 0);
     }
 
     private static void wrongFills() {

@@ -66,6 +66,11 @@ public final class RandomRunsTest {
         return random.nextInt(5) == 0 ? random.nextInt(2 * most + 1) - most : near();
     }
 
+    /** In sixteenths; of a grid, so that many EDGES go through centres and samples. */
+    private int pathPlace(int grid) {
+        return random.nextInt(6) == 0 ? far(4096) : (near() * 16 + random.nextInt(16)) / grid * grid;
+    }
+
     private int side() {
         return strange() ? extreme() : 1 + random.nextInt(reach);
     }
@@ -131,9 +136,9 @@ public final class RandomRunsTest {
                 CHECK.due(name + "corner", bench.corner(i, x, y, colour), plain.corner(i, x, y, colour));
             }
             default -> {
-                int grid = random.nextInt(3) == 0 ? 8 : 1;
-                int x = random.nextInt(6) == 0 ? far(4096) : near() * 16 / grid * grid + random.nextInt(16) / grid * grid;
-                int y = random.nextInt(6) == 0 ? far(4096) : near() * 16 / grid * grid + random.nextInt(16) / grid * grid;
+                int grid = random.nextInt(3) == 0 ? 8 : random.nextInt(2) + 1;
+                int x = pathPlace(grid);
+                int y = pathPlace(grid);
                 boolean begins = random.nextInt(6) == 0;
                 CHECK.due(name + "point", bench.point(x, y, begins), plain.point(x, y, begins));
             }
