@@ -16,14 +16,6 @@ public final class PathTest {
         CHECK.end();
     }
 
-    /** A CONTOUR of a rectangle in sixteenths, turning one way or the other. */
-    private static void rectangle(DotBench x, int x0, int y0, int x1, int y1, boolean turned) {
-        x.point(x0, y0, true);
-        x.point(turned ? x0 : x1, turned ? y1 : y0, false);
-        x.point(x1, y1, false);
-        x.point(turned ? x1 : x0, turned ? y0 : y1, false);
-    }
-
     private static void point() {
         DotBench x = new DotBench();
         int[][] wrong = {{4097, 0}, {0, 4097}, {-4097, 0}, {0, -4097}, {Integer.MIN_VALUE, 0}, {0, Integer.MAX_VALUE}};
@@ -43,7 +35,7 @@ public final class PathTest {
 
     private static void squareBySides() {
         DotBench x = Check.benchWith(6, 5);
-        rectangle(x, 16, 16, 64, 48, false);
+        Check.rectangle(x, 16, 16, 64, 48, false);
         CHECK.due("fill of 3 times 2 DOTS", x.fill(0, 0, false), 6);
         CHECK.drawing("fill", x, 0, "......", ".###..", ".###..", "......", "......");
         CHECK.due("THE PATH stays", x.fill(0, 1, false), 6);
@@ -55,23 +47,23 @@ public final class PathTest {
     private static void centresOnEdges() {
         // Sides through the centres: the left and the upper ones are INSIDE, the right and the lower ones not.
         DotBench x = Check.benchWith(6, 5);
-        rectangle(x, 24, 24, 72, 56, true);
+        Check.rectangle(x, 24, 24, 72, 56, true);
         CHECK.due("fill from centre to centre", x.fill(0, 1, false), 6);
         CHECK.drawing("fill", x, 0, "......", ".###..", ".###..", "......", "......");
     }
 
     private static void rules() {
         DotBench x = Check.benchWith(5, 5);
-        rectangle(x, 0, 0, 80, 80, false);
-        rectangle(x, 16, 16, 64, 64, false);
+        Check.rectangle(x, 0, 0, 80, 80, false);
+        Check.rectangle(x, 16, 16, 64, 64, false);
         CHECK.due("rule 0 leaves a hole", x.fill(0, 0, false), 16);
         CHECK.drawing("rule 0", x, 0, "#####", "#...#", "#...#", "#...#", "#####");
         CHECK.due("rule 1 leaves none of the same turn", x.fill(0, 1, false), 25);
         x.clear();
-        rectangle(x, 0, 0, 80, 80, false);
-        rectangle(x, 16, 16, 64, 64, true);
+        Check.rectangle(x, 0, 0, 80, 80, false);
+        Check.rectangle(x, 16, 16, 64, 64, true);
         CHECK.due("rule 1 leaves a hole of the other turn", x.fill(0, 1, false), 16);
-        rectangle(x, 32, 32, 48, 48, true);
+        Check.rectangle(x, 32, 32, 48, 48, true);
         CHECK.due("a WINDING of -1 is not 0", x.fill(0, 1, false), 17);
         CHECK.due("and odd", x.fill(0, 0, false), 17);
     }
@@ -93,17 +85,17 @@ public final class PathTest {
     private static void smoothing() {
         DotBench x = Check.benchWith(4, 3);
         // From 1/4 to 2 + 3/8 along x: 12, 16 and 4 samples (the one at 3/8 is on the right side and not INSIDE).
-        rectangle(x, 4, 0, 38, 16, false);
+        Check.rectangle(x, 4, 0, 38, 16, false);
         CHECK.due("three DOTS", x.fill(0, 0, true), 3);
         CHECK.due("c = 12", x.dot(0, 0, 0), 0xBFBFBFBF);
         CHECK.due("c = 16", x.dot(0, 1, 0), 0xFFFFFFFF);
         CHECK.due("c = 4", x.dot(0, 2, 0), 0x40404040);
         CHECK.due("c = 0", x.dot(0, 3, 0), 0);
         x.clear();
-        rectangle(x, 0, 33, 64, 34, false);
+        Check.rectangle(x, 0, 33, 64, 34, false);
         CHECK.due("between the samples: none TOUCHED", x.fill(0, 0, true), 0);
         x.clear();
-        rectangle(x, 6, 38, 7, 39, false);
+        Check.rectangle(x, 6, 38, 7, 39, false);
         CHECK.due("a single sample: TOUCHED", x.fill(0, 0, true), 1);
         CHECK.due("c = 1", x.dot(0, 0, 2), 0x10101010);
     }
@@ -113,7 +105,7 @@ public final class PathTest {
             for (int c = 1; c <= 4; c++) {
                 DotBench x = Check.benchWith(1, 1);
                 x.way(3, opacity);
-                rectangle(x, 0, 0, 4 * c, 4, false);
+                Check.rectangle(x, 0, 0, 4 * c, 4, false);
                 CHECK.due("TOUCHED also if it stays the same", x.fill(0, 1, true), 1);
                 CHECK.due("ALPHA of " + opacity + " by " + c, x.dot(0, 0, 0) >>> 24, (2 * opacity * c + 16) / 32);
             }
@@ -122,7 +114,7 @@ public final class PathTest {
 
     private static void inside() {
         DotBench x = new DotBench();
-        rectangle(x, 1, 1, 3, 4, false);
+        Check.rectangle(x, 1, 1, 3, 4, false);
         int[][] rows = {{2, 2, 1}, {1, 2, 0}, {2, 1, 0}, {5, 7, 1}, {6, 7, 0}, {5, 8, 0}, {Integer.MAX_VALUE, 3, 0},
             {Integer.MIN_VALUE, 3, 0}, {3, Integer.MAX_VALUE, 0}, {3, Integer.MIN_VALUE, 0}};
         for (int[] one : rows) {
@@ -150,20 +142,20 @@ public final class PathTest {
 
     private static void sidesOfTheSheet() {
         DotBench x = Check.benchWith(64, 64);
-        rectangle(x, 0, 0, 1024, 1024, false);
+        Check.rectangle(x, 0, 0, 1024, 1024, false);
         CHECK.due("the greatest SHEET, smoothed", x.fill(0, 0, true), 4096);
         CHECK.due("all of it", x.count(0, -1), 4096);
         CHECK.due("the greatest SHEET", x.fill(0, 0, false), 4096);
         x.clear();
-        rectangle(x, 1024, 0, 1040, 1024, false);
-        rectangle(x, -16, 0, 0, 1024, true);
+        Check.rectangle(x, 1024, 0, 1040, 1024, false);
+        Check.rectangle(x, -16, 0, 0, 1024, true);
         CHECK.due("beside it, smoothed", x.fill(0, 1, true), 0);
         CHECK.due("beside it", x.fill(0, 1, false), 0);
     }
 
     private static void wrongFills() {
         DotBench x = Check.benchWith(2, 2);
-        rectangle(x, -4096, -4096, 4096, 4096, false);
+        Check.rectangle(x, -4096, -4096, 4096, 4096, false);
         CHECK.due("fill of rule 2", x.fill(0, 2, false), -1);
         CHECK.due("fill of rule -1", x.fill(0, -1, true), -1);
         CHECK.due("fill of no SHEET", x.fill(1, 0, false), -1);
