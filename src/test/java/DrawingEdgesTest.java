@@ -26,6 +26,7 @@ public final class DrawingEdgesTest {
         theSumIsNotZero();
         exactPlaces();
         centresOnSides();
+        centresJustBesideASlope();
         centreButNoSample();
         samplesOnSides();
         CHECK.end();
@@ -413,6 +414,37 @@ public final class DrawingEdgesTest {
         x.clear();
         Check.rectangle(x, 9, 9, 23, 23, false);
         CHECK.due("between centres", x.fill(0, 1, false), 0);
+    }
+
+    /** A side from (8, -1000) to (8 + lean, 4000), and all that lies between it and a far x. */
+    private static DotBench besideASlope(int lean, int far) {
+        DotBench x = Check.benchWith(1, 1);
+        x.point(8, -1000, true);
+        x.point(8 + lean, 4000, false);
+        x.point(far, 4000, false);
+        x.point(far, -1000, false);
+        return x;
+    }
+
+    private static void centresJustBesideASlope() {
+        CHECK.about("each if the EDGE's x at v is not above u");
+        // At the centre's height, 8 sixteenths, the side has gone 0.2016 of its way: 16.4 or 15.6 thirty-seconds.
+        DotBench x = besideASlope(1, 4096);
+        CHECK.due("a left side just right of the centre", x.fill(0, 1, false), 0);
+        CHECK.due("at 16", x.inside(16, 16, 1), 0);
+        CHECK.due("at 17", x.inside(17, 16, 1), 1);
+        x = besideASlope(-1, 4096);
+        CHECK.due("a left side just left of the centre", x.fill(0, 1, false), 1);
+        CHECK.due("at 15", x.inside(15, 16, 1), 0);
+        CHECK.due("at 16", x.inside(16, 16, 1), 1);
+        x = besideASlope(1, -4096);
+        CHECK.due("a right side just right of the centre", x.fill(0, 1, false), 1);
+        CHECK.due("at 16", x.inside(16, 16, 1), 1);
+        CHECK.due("at 17", x.inside(17, 16, 1), 0);
+        x = besideASlope(-1, -4096);
+        CHECK.due("a right side just left of the centre", x.fill(0, 1, false), 0);
+        CHECK.due("at 15", x.inside(15, 16, 1), 1);
+        CHECK.due("at 16", x.inside(16, 16, 1), 0);
     }
 
     private static void centreButNoSample() {

@@ -133,6 +133,9 @@ public final class PromiseEdgesTest {
         x.clip(2, 2, 2, 2);
         x.sheet(1, 3, 3);
         CHECK.due("it is for all SHEETS", x.flood(1, 2, 2, false), 1);
+        x.dashes(0x0005);
+        x.clip(0, 0, 9, 9);
+        CHECK.due("the DASHES stay", x.line(0, 0, 0, 5, 0), 2);
     }
 
     private static void dashes() {
@@ -146,7 +149,8 @@ public final class PromiseEdgesTest {
         x.dashes(0);
         Check.rectangle(x, 0, 0, 256, 16, false);
         CHECK.due("they are for LINES alone: fill", x.fill(0, 1, false), 16);
-        CHECK.due("circle", x.circle(0, 8, 0, 3), 2);
+        x.sheet(1, 7, 7);
+        CHECK.due("circle", x.circle(1, 3, 3, 3), 16);
         CHECK.due("flood", x.flood(0, 0, 0, false), 16);
         CHECK.due("copy", x.copy(0, 0, 0, 16, 1, 0, 0, 0), 16);
     }
@@ -400,6 +404,11 @@ public final class PromiseEdgesTest {
         x.way(0, 255);
         x.flood(0, 0, 0, false);
         CHECK.due("no DOT any more", x.look(0, 3), -1);
+        x.way(1, 255);
+        for (int alpha = 1; alpha <= 255; alpha++) {
+            Check.putDot(x, 0, 5, 1, alpha << 24);
+            CHECK.due("an ALPHA of " + alpha, x.look(0, 0), 5);
+        }
     }
 
     private static void inside() {

@@ -8,6 +8,7 @@ public final class ShadeAndCopyEdgesTest {
         theGreatestTriangle();
         centresOnSides();
         cutDownwards();
+        theWeightsOfTheCorners();
         theShadeHasItsOwnInk();
         floodOfOneDot();
         floodOfAll();
@@ -116,6 +117,21 @@ public final class ShadeAndCopyEdgesTest {
         x.corner(2, 0, 4, 0xFFFFFFFF);
         x.shade(0);
         CHECK.due("whole ones stay", x.count(0, -1), 6);
+    }
+
+    private static void theWeightsOfTheCorners() {
+        CHECK.about("wa the double area of the triangle of the centre and the corners b and c, and so on");
+        for (int first = 0; first < 3; first++) {
+            DotBench x = Check.benchWith(10, 10);
+            x.corner(first, 1, 0, 0xFFFF0000);
+            x.corner((first + 1) % 3, 10, 3, 0xFF00FF00);
+            x.corner((first + 2) % 3, 2, 9, 0xFF0000FF);
+            x.shade(0);
+            // w is 4 * 78 = 312. At (4, 3): b and c are (11, -1) and (-5, 11) halves away, c and a (-7, -7).
+            CHECK.due("116, 112 and 84 of 312", x.dot(0, 4, 3), 0xFF000000 | 94 << 16 | 91 << 8 | 68);
+            // At (2, 1): b is (15, 3) halves away, c (-1, 15), a (-3, -3).
+            CHECK.due("228, 48 and 36 of 312", x.dot(0, 2, 1), 0xFF000000 | 186 << 16 | 39 << 8 | 29);
+        }
     }
 
     private static void theShadeHasItsOwnInk() {
