@@ -15,6 +15,7 @@ public final class DrawingEdgesTest {
         theWidestCircle();
         upTo48Points();
         theFarthestPoints();
+        sidesOfTheSheet();
         closedContours();
         contoursWithoutRoom();
         theFirstPointBegins();
@@ -214,6 +215,27 @@ public final class DrawingEdgesTest {
         CHECK.due("far left", x.inside(Integer.MIN_VALUE, 0, 1), 0);
         CHECK.due("far below", x.inside(0, Integer.MAX_VALUE, 0), 0);
         CHECK.due("far above", x.inside(0, Integer.MIN_VALUE, 0), 0);
+    }
+
+    private static void sidesOfTheSheet() {
+        CHECK.about("DOTS not on the SHEET are left as they are");
+        int[][] sizes = {{64, 64}, {64, 1}, {1, 64}, {5, 3}, {63, 64}};
+        for (int[] size : sizes) {
+            for (int smooth = 0; smooth < 2; smooth++) {
+                DotBench x = Check.benchWith(size[0], size[1]);
+                int right = 16 * size[0];
+                int below = 16 * size[1];
+                Check.rectangle(x, 0, 0, right, below, false);
+                CHECK.due("the SHEET's own sides", x.fill(0, 1, smooth == 1), size[0] * size[1]);
+                CHECK.due("all of it", x.count(0, -1), size[0] * size[1]);
+                x.clear();
+                Check.rectangle(x, right, 0, right + 64, below, false);
+                Check.rectangle(x, -64, 0, 0, below, true);
+                Check.rectangle(x, 0, below, right, below + 64, false);
+                Check.rectangle(x, 0, -64, right, 0, true);
+                CHECK.due("what lies beside it", x.fill(0, 1, smooth == 1), 0);
+            }
+        }
     }
 
     private static void closedContours() {

@@ -1,6 +1,7 @@
 /** PART 2 of the document's terms, sentence by sentence: SHADE, FLOOD, COPY and STRETCH. */
 public final class ShadeAndCopyEdgesTest {
     private static final Check CHECK = new Check();
+    private static final int RED = 0xFFFF0000;
 
     public static void main(String[] args) {
         trianglesWithoutArea();
@@ -14,6 +15,7 @@ public final class ShadeAndCopyEdgesTest {
         floodOfAll();
         floodByTheSameValueAlone();
         floodBySidesOrCorners();
+        floodToTheNextDotsAlone();
         floodInTheClip();
         floodLaysOnceThoughItMeetsItsInk();
         copyOfNothing();
@@ -201,6 +203,23 @@ public final class ShadeAndCopyEdgesTest {
         wide.line(0, 1, 0, 1, 2);
         CHECK.due("the left column", wide.region(0, 0, 1, true), 3);
         CHECK.due("the right part", wide.region(0, 63, 1, true), 186);
+    }
+
+    private static void floodToTheNextDotsAlone() {
+        CHECK.about("hang together with it by sides (or by sides and corners)");
+        for (int i = 0; i < 49; i++) {
+            int right = Math.abs(i % 7 - 3);
+            int down = Math.abs(i / 7 - 3);
+            DotBench x = Check.benchWith(7, 7);
+            x.line(0, 3, 3, 3, 3);
+            x.line(0, i % 7, i / 7, i % 7, i / 7);
+            int both = right + down == 0 ? 1 : 2;
+            CHECK.due("3 3 and DOT " + i + " by sides", x.region(0, 3, 3, false), right + down <= 1 ? both : 1);
+            CHECK.due("3 3 and DOT " + i + " by corners", x.region(0, 3, 3, true),
+                    right <= 1 && down <= 1 ? both : 1);
+            x.ink(RED);
+            CHECK.due("flood to DOT " + i, x.flood(0, 3, 3, true), right <= 1 && down <= 1 ? both : 1);
+        }
     }
 
     private static void floodInTheClip() {
