@@ -447,12 +447,12 @@ public final class DotBench {
         }
     }
 
-    /** Bounds that are inclusive; a new one holds every place. */
+    /** Bounds that are inclusive; a new one holds every DOT that a SHEET can have. */
     private static final class Box {
-        private int x0 = Integer.MIN_VALUE;
-        private int y0 = Integer.MIN_VALUE;
-        private int x1 = Integer.MAX_VALUE;
-        private int y1 = Integer.MAX_VALUE;
+        private int x0 = 0;
+        private int y0 = 0;
+        private int x1 = SIDE - 1;
+        private int y1 = SIDE - 1;
 
         void bound(int leastX, int leastY, int mostX, int mostY) {
             x0 = leastX;
